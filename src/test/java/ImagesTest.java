@@ -3,6 +3,7 @@ public final class ImagesTest {
     public static void main(String[] args) {
         images();
         imageStays();
+        otherKnots();
         notInTheImage();
         tellAndCheck();
         count();
@@ -81,6 +82,47 @@ public final class ImagesTest {
         Due.law(x, 0, "v");
         x.restore();
         Due.due("without a law again", x.law(0, 10, 0, 0), 11);
+    }
+
+    /** Each KNOT of an image may be another one in all it has. */
+    private static void otherKnots() {
+        CrossedKnots x = new CrossedKnots();
+        x.people(6);
+        x.image();
+        x.bind(12, 1, -1);
+        x.bind(34, 23, 0);
+        x.bind(56, 45, -1);
+        x.change(1, 3, 71);
+        x.change(2, 3, 72);
+        x.change(0, 2, 0);
+        x.change(2, 0, 111);
+        x.change(2, 1, 222);
+        String first = Due.facts(x);
+        x.restore();
+        Due.due("no knots again", x.count(1), 0);
+        Due.due("a new one", x.bind(65, 10, -1), 0);
+        int[] facts = {6, 5, 1, 0, 30, 0, -1, 1, 0, 5};
+        for (int what = 0; what <= 9; what++) {
+            Due.due("the new one's " + what, x.ofKnot(0, what), facts[what]);
+        }
+        x.bind(43, 32, -1);
+        Due.due("another new one's load", x.ofKnot(1, 8), 0);
+        x.bind(21, 54, 1);
+        x.change(1, 2, 0);
+        x.change(2, 2, 0);
+        String second = Due.facts(x);
+        x.image();
+        x.people(2);
+        x.hand(5, 0, 33);
+        x.change(0, 2, 0);
+        x.change(1, 2, 1);
+        x.change(2, 2, 1);
+        x.become(0, 0);
+        x.become(1, 0);
+        x.become(2, 0);
+        x.restore();
+        Due.same("the second house", Due.facts(x), second);
+        Due.due("the houses are unlike", first.equals(second) ? 1 : 0, 0);
     }
 
     private static void notInTheImage() {

@@ -6,6 +6,7 @@ public final class KnotsTest {
         undo();
         undoHeld();
         undoByOthers();
+        sixPeople();
         eases();
         change();
         becomeAndAs();
@@ -134,6 +135,41 @@ public final class KnotsTest {
         Due.due("not beyond EASE", x.can(0, 23, 1), 0);
         x.change(0, 0, 27);
         Due.due("at EASE", x.can(0, 23, 1), 1);
+    }
+
+    /** Each two of six, told as 10 times ONE, and OTHER. */
+    private static void sixPeople() {
+        for (int pair = 0; pair < 70; pair++) {
+            CrossedKnots x = new CrossedKnots();
+            x.people(6);
+            for (int i = 0; i < 6; i++) {
+                x.hand(i, 0, 10 + 13 * i);
+                x.hand(i, 1, 90 - 5 * i);
+            }
+            int one = pair / 10;
+            int other = pair % 10;
+            boolean two = one < 6 && other < 6 && one != other;
+            Due.due("bind by " + pair, x.bind(0, pair, -1), two ? 0 : Due.BEYOND);
+            if (!two) {
+                continue;
+            }
+            int pull = 90 - 5 * one + 10 + 13 * other;
+            Due.due("CROSSING by " + pair, x.ofKnot(0, 4), 10 + 13 * one + 90 - 5 * other);
+            x.change(0, 0, pull - 4);
+            Due.due("MISSES of " + pair, x.can(0, pair, 0), 4);
+            Due.due("CAN of " + pair, x.can(0, pair, 1), 1);
+            Due.due("PAIR, MISSES of " + pair, x.pair(0, 1), 4);
+            Due.due("PAIR is " + pair, x.pair(0, 0), pair);
+            x.hand(one, 2, 0);
+            Due.due("bind without ONE of " + pair, x.bind(0, pair, -1), Due.STATE);
+            Due.due("undo without ONE of " + pair, x.undo(0, pair), Due.STATE);
+            x.hand(one, 2, 1);
+            x.hand(other, 2, 0);
+            Due.due("bind without OTHER of " + pair, x.bind(0, pair, -1), Due.STATE);
+            Due.due("undo without OTHER of " + pair, x.undo(0, pair), Due.STATE);
+            x.hand(other, 2, 1);
+            Due.due("undo by " + pair, x.undo(0, pair), 0);
+        }
     }
 
     private static void eases() {

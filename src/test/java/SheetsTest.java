@@ -92,7 +92,10 @@ public final class SheetsTest {
         Due.due("an ERROR leaves it", x.sheet(3, 8, -1), Due.STATE);
         Due.due("as it was", x.fits(3), 1);
         Due.due("laid anew", x.sheet(3, 8, 1), 1);
-        Due.due("all 0", x.fits(3), 0);
+        Due.due("does not fit", x.fits(3), 0);
+        x.change(0, 0, 0);
+        Due.due("all 0", x.judge(3), -1);
+        x.change(0, 0, 30);
         Due.due("number 1", x.put(3, 1, 1), Due.BEYOND);
         Due.due("no numbers", x.sheet(3, 8, 0), 1);
         Due.due("number 0", x.put(3, 0, 1), Due.BEYOND);
@@ -225,6 +228,15 @@ public final class SheetsTest {
         Due.due("no such", x.judge(4), Due.BEYOND);
         Due.due("no such", x.judge(-1), Due.BEYOND);
         Due.due("missing", x.judge(2), Due.NONE);
+        CrossedKnots full = row(0, 32, 30, 30, 30, 30, 30, 30, 30, 30);
+        Due.due("eight are", full.judge(0), -1);
+        Due.due("eight fit", full.fits(0), 8);
+        lay(full, 1, 32, 30, 30, 30, 30, 30, 30, 30, 30, 30);
+        Due.due("nine are one too many", full.judge(1), 8);
+        Due.due("eight of nine fit", full.fits(1), 8);
+        Due.due("eight of nine are loads", full.loads(1), 8);
+        full.sheet(2, 16, 40);
+        Due.due("eight of forty are loads", full.loads(2), 8);
         CrossedKnots y = new CrossedKnots();
         y.sheet(0, 8, 0);
         Due.due("none of none", y.judge(0), -1);

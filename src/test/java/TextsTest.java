@@ -65,17 +65,19 @@ public final class TextsTest {
             ")", "1<2<3", "1<2=3", "(1<2)<3", "1<2&3>4|5=6", "v++1", "v-1", "-1", "!", "!!!!!v", "!!!!!!v", "(((((v)))))",
             "((((((v))))))", "!(!(!v))", "!(!(!(v)))", "d", "m", "l", "v&d", "y%", "y%%", "k|", "(1+(2*(3", "v/0",
             "!v!v", "(v)(v)", "(v)v", "1(", "v&&k", "v||k", "v==1", "V", "v+1\u0000", "\u00e9", "=1", "v<", "(v|k)&!y",
-            "!!!!!(v)", "!!!!(v)", "!!!!(!v)", "(v)*(!!!!!v)", "((((!v))))+!!!!!1"};
+            "!!!!!+1", "(((((-1)))))", "!!!!!(v)", "!!!!(v)", "!!!!(!v)", "(v)*(!!!!!v)", "((((!v))))+!!!!!1"};
         int[] faults = {0, -1, 2, 1, 1, 1, 1, 4, -1, 4, 1, 2, -1, 3,
             0, 3, 3, -1, -1, 2, -1, 0, 1, -1, 5, -1,
             5, -1, 5, 0, 0, 0, 2, 2, 2, 2, 8, -1,
             2, 3, 3, 1, 2, 2, 2, 0, 3, 0, 0, 2, -1,
-            5, -1, 5, 9, -1};
+            5, 5, 5, -1, 5, 9, -1};
         Due.due("as many faults as texts", faults.length, texts.length);
         CrossedKnots x = new CrossedKnots();
         for (int i = 0; i < texts.length; i++) {
             Due.due("text " + texts[i], Due.law(x, 0, texts[i]), faults[i] < 0 ? 1 : -10 - faults[i]);
         }
+        Due.due("after them all", Due.law(x, 0, "k-v*1"), 1);
+        Due.due("its worth", x.law(0, 4, 50, 0), 46);
         x = new CrossedKnots();
         Due.due("names of use 1", Due.law(x, 1, "d+m*l"), 1);
         Due.due("v is none of use 1", Due.law(x, 1, "d+v"), -12);
@@ -85,11 +87,11 @@ public final class TextsTest {
 
     private static void worth() {
         String[] texts = {"v", "k", "y", "v-k-y", "v+k*y", "(v+k)*y", "v/k", "v%k", "v/k*k", "20-v%k*2", "v/0", "v%0",
-            "!v", "!0", "!!v", "v&0", "v&k", "0|0", "0|v", "1|0&0", "v<k", "k<v", "v=v", "v>k", "k>v", "v<k|k<v",
+            "!v", "!0", "!!v", "v&0", "v&k", "0|0", "0|v", "1|0&0", "v<k", "k<v", "v=v", "v>k", "k>v", "v<k|k<v", "v<v", "v>v", "v=k",
             "1+1=2", "v=17&k=5", "0-3+v", "!v+7", "!(v-17)*9", "100/7/2", "100%7*2", "2*3%4", "99-10-9", "3<4*2", "0012",
             "(0-7)/2+10", "(0-7)%4+10", "(1<2)+(2<3)"};
         int[] wants = {17, 5, 3, 9, 32, 66, 3, 2, 15, 16, 0, 0,
-            0, 1, 1, 0, 1, 0, 1, 1, 0, 1, 1, 1, 0, 1,
+            0, 1, 1, 0, 1, 0, 1, 1, 0, 1, 1, 1, 0, 1, 0, 0, 0,
             1, 1, 14, 7, 9, 7, 4, 2, 80, 1, 12,
             7, 7, 2};
         Due.due("as many answers as texts", wants.length, texts.length);

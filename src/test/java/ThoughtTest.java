@@ -85,6 +85,14 @@ public final class ThoughtTest {
         x.change(2, 2, 1);
         x.change(2, 0, 120);
         Due.due("only later", x.last(2), 47);
+        x.change(2, 0, 25);
+        Due.due("now alone", x.last(2), 0);
+        x.change(2, 0, 120);
+        x.hand(2, 1, 22);
+        Due.due("the nearer way alone", x.last(2), 47);
+        x.hand(2, 1, 97);
+        Due.due("one of both ways is enough", x.last(2), 47);
+        x.hand(2, 1, 20);
         Due.due("last(3)", x.last(3), Due.BEYOND);
         Due.due("last(-1)", x.last(-1), Due.BEYOND);
         Due.law(x, 0, "v");
@@ -217,6 +225,16 @@ public final class ThoughtTest {
         x.hand(2, 2, 0);
         Due.due("no 2", x.keep(), 0);
         sameNumberOtherKnots();
+        keepIsOfNow();
+    }
+
+    private static void keepIsOfNow() {
+        CrossedKnots x = new CrossedKnots();
+        x.bind(0, 23, -1);
+        x.change(0, 0, 25);
+        Due.due("now 2 and 3 can", x.keep(), 12);
+        x.change(0, 0, 36);
+        Due.due("in a year they could", x.keep(), 0);
     }
 
     /** As many, not the same ones: 0 and 1 undo one, as 0 and 2 would. */
@@ -360,6 +378,8 @@ public final class ThoughtTest {
         x.change(0, 2, 0);
         x.hand(0, 2, 0);
         Due.due("not as it was", x.fits(0), 2);
+        x.put(0, 2, -1);
+        Due.due("no knot has -1", x.fits(0), 2);
         x.put(0, 0, 31);
         Due.due("from the first on", x.fits(0), 0);
         x.sheet(1, 8, 1);
