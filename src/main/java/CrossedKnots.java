@@ -20,7 +20,7 @@ public final class CrossedKnots {
     private final House house = new House();
     private final House kept = new House();
     private int images = 0;
-    private final Thought thought = new Thought(house);
+    private final Thought thought = new Thought();
     private final Reader reader = new Reader();
     private final Voices voices = new Voices();
     private final Sheet[] sheets = {new Sheet(), new Sheet(), new Sheet(), new Sheet()};
@@ -207,7 +207,7 @@ public final class CrossedKnots {
         if (!within(n, MOST_YEARS) || !house.isPerson(person) || !within(what, 1)) {
             return error(BEYOND);
         }
-        thought.goBehind(n);
+        thought.goBehind(house, n);
         return thought.hands.handOf(person, what);
     }
 
@@ -228,12 +228,12 @@ public final class CrossedKnots {
             return error(BEYOND);
         }
         int latest = -1;
-        thought.goBehind(0);
+        thought.goBehind(house, 0);
         for (int n = 0; n <= MOST_YEARS; n++) {
-            if (thought.isOwn(k)) {
+            if (thought.isOwn(house, k)) {
                 latest = n;
             }
-            thought.goOn();
+            thought.goOn(house);
         }
         return latest < 0 ? error(NONE) : latest;
     }
@@ -242,9 +242,9 @@ public final class CrossedKnots {
         if (!within(n, MOST_YEARS)) {
             return error(BEYOND);
         }
-        thought.goBehind(n);
-        thought.findWays();
-        return thought.openWith(house.there);
+        thought.goBehind(house, n);
+        thought.findWays(house);
+        return thought.openWith(house, house.there);
     }
 
     public int pair(int knot, int what) {
@@ -252,8 +252,8 @@ public final class CrossedKnots {
         if (k == null || !within(what, 1)) {
             return error(BEYOND);
         }
-        thought.goBehind(0);
-        int nearest = thought.nearestPair(k);
+        thought.goBehind(house, 0);
+        int nearest = thought.nearestPair(house, k);
         if (nearest < 0) {
             return error(NONE);
         }
@@ -267,16 +267,16 @@ public final class CrossedKnots {
         if (house.there == 0) {
             return error(NONE);
         }
-        thought.goBehind(n);
-        thought.findWays();
-        int who = thought.mostMissed();
-        return what == 0 ? who : thought.openWithout(who);
+        thought.goBehind(house, n);
+        thought.findWays(house);
+        int who = thought.mostMissed(house);
+        return what == 0 ? who : thought.openWithout(house, who);
     }
 
     public int keep() {
-        thought.goBehind(0);
-        thought.findWays();
-        return thought.fewestKept();
+        thought.goBehind(house, 0);
+        thought.findWays(house);
+        return thought.fewestKept(house);
     }
 
     public int whose(int crossing, int what) {
@@ -326,12 +326,12 @@ public final class CrossedKnots {
         if (k == null) {
             return error(BEYOND);
         }
-        thought.goBehind(0);
+        thought.goBehind(house, 0);
         for (int n = 0; n <= MOST_YEARS; n++) {
-            if (thought.nearestPair(k) >= 0) {
+            if (thought.nearestPair(house, k) >= 0) {
                 return n;
             }
-            thought.goOn();
+            thought.goOn(house);
         }
         return error(NONE);
     }
@@ -342,10 +342,10 @@ public final class CrossedKnots {
             return error(BEYOND);
         }
         int above = 0;
-        thought.goBehind(0);
+        thought.goBehind(house, 0);
         for (int n = 0; n < ODDS_YEARS; n++) {
-            above += thought.isOwn(k) ? 1 : 0;
-            thought.goOn();
+            above += thought.isOwn(house, k) ? 1 : 0;
+            thought.goOn(house);
         }
         int divisor = commonDivisor(above, ODDS_YEARS);
         return (part == 0 ? above : ODDS_YEARS) / divisor;
@@ -503,9 +503,9 @@ public final class CrossedKnots {
     public int check() {
         int waited = house.waitingCount;
         house.waitingCount = 0;
-        thought.goBehind(0);
+        thought.goBehind(house, 0);
         for (int i = 0; i < waited; i++) {
-            thought.goOn();
+            thought.goOn(house);
             if (house.waiting[i] != thought.hands.together(house.size)) {
                 return 1 + i;
             }
@@ -587,8 +587,8 @@ public final class CrossedKnots {
     }
 
     private boolean canNow(Knot k, int pair) {
-        thought.goBehind(0);
-        return !house.isHeld(k) && thought.canWereItFree(k, pair / 10, pair % 10);
+        thought.goBehind(house, 0);
+        return !house.isHeld(k) && thought.canWereItFree(house, k, pair / 10, pair % 10);
     }
 
     /** LEFT and RIGHT of all, in a YEAR. */
@@ -942,28 +942,23 @@ public final class CrossedKnots {
 
     /** What would be, the HANDS being as in a YEAR that is thought of. */
     private static final class Thought {
-        private final House house;
         final Hands hands = new Hands();
         /** For each KNOT, bit s: the two who are the set s could undo it, were it UNDER none. */
         private final long[] ways = new long[House.MOST_KNOTS];
 
-        Thought(House house) {
-            this.house = house;
-        }
-
-        void goBehind(int n) {
+        void goBehind(House house, int n) {
             hands.copyFrom(house.hands);
             for (int i = 0; i < n; i++) {
-                goOn();
+                goOn(house);
             }
         }
 
-        void goOn() {
+        void goOn(House house) {
             hands.goAhead(house);
         }
 
         /** All of CAN but who is THERE, what is TIED, and what holds it. */
-        private boolean loosens(Knot k, int one, int other) {
+        private boolean loosens(House house, Knot k, int one, int other) {
             int misses = k.misses(hands, one, other);
             if (misses > k.ease(hands.year)) {
                 return false;
@@ -971,23 +966,23 @@ public final class CrossedKnots {
             return k.wasBoundBy(one, other) || house.standsIn.given(misses, k.m, k.load) != 0;
         }
 
-        boolean canWereItFree(Knot k, int one, int other) {
-            return k.tied && house.areThere(one, other) && loosens(k, one, other);
+        boolean canWereItFree(House house, Knot k, int one, int other) {
+            return k.tied && house.areThere(one, other) && loosens(house, k, one, other);
         }
 
-        boolean isOwn(Knot k) {
-            return canWereItFree(k, k.one, k.other) || canWereItFree(k, k.other, k.one);
+        boolean isOwn(House house, Knot k) {
+            return canWereItFree(house, k, k.one, k.other) || canWereItFree(house, k, k.other, k.one);
         }
 
         /** The first two with least MISSES, -1 if there are none. */
-        int nearestPair(Knot k) {
+        int nearestPair(House house, Knot k) {
             int nearest = -1;
             int least = 0;
             for (int one = 0; one < house.size; one++) {
                 for (int other = 0; other < house.size; other++) {
                     int misses = k.misses(hands, one, other);
                     boolean nearer = nearest < 0 || misses < least;
-                    if (one != other && nearer && canWereItFree(k, one, other)) {
+                    if (one != other && nearer && canWereItFree(house, k, one, other)) {
                         nearest = 10 * one + other;
                         least = misses;
                     }
@@ -997,17 +992,17 @@ public final class CrossedKnots {
         }
 
         /** Who could undo what is worked out once; the sets of people are tried on that. */
-        void findWays() {
+        void findWays(House house) {
             for (int i = 0; i < house.knotCount && i < ways.length; i++) {
-                ways[i] = waysOf(house.knots[i]);
+                ways[i] = waysOf(house, house.knots[i]);
             }
         }
 
-        private long waysOf(Knot k) {
+        private long waysOf(House house, Knot k) {
             long found = 0;
             for (int one = 0; one < house.size; one++) {
                 for (int other = 0; other < one; other++) {
-                    if (loosens(k, one, other) || loosens(k, other, one)) {
+                    if (loosens(house, k, one, other) || loosens(house, k, other, one)) {
                         found |= 1L << (1 << one | 1 << other);
                     }
                 }
@@ -1015,9 +1010,9 @@ public final class CrossedKnots {
             return found;
         }
 
-        private long pairsWithin(int set) {
+        private static long pairsWithin(int set) {
             long pairs = 0;
-            for (int one = 0; one < house.size; one++) {
+            for (int one = 0; one < House.MOST_PEOPLE; one++) {
                 for (int other = 0; other < one; other++) {
                     if ((set >> one & set >> other & 1) == 1) {
                         pairs |= 1L << (1 << one | 1 << other);
@@ -1028,7 +1023,7 @@ public final class CrossedKnots {
         }
 
         /** Of findWays(): one pass is enough, a KNOT being UNDER one of a lesser number. */
-        int openWith(int there) {
+        int openWith(House house, int there) {
             long pairs = pairsWithin(there);
             int still = house.tiedSet();
             int undone = 0;
@@ -1043,18 +1038,18 @@ public final class CrossedKnots {
             return undone;
         }
 
-        int openWithout(int person) {
-            return Integer.bitCount(openWith(house.there & ~(1 << person)));
+        int openWithout(House house, int person) {
+            return Integer.bitCount(openWith(house, house.there & ~(1 << person)));
         }
 
-        int mostMissed() {
+        int mostMissed(House house) {
             int who = -1;
             int fewest = 0;
             for (int person = 0; person < house.size; person++) {
                 if (!house.isThere(person)) {
                     continue;
                 }
-                int left = openWithout(person);
+                int left = openWithout(house, person);
                 if (who < 0 || left < fewest) {
                     who = person;
                     fewest = left;
@@ -1063,12 +1058,12 @@ public final class CrossedKnots {
             return who;
         }
 
-        int fewestKept() {
-            int wanted = Integer.bitCount(openWith(house.there));
+        int fewestKept(House house) {
+            int wanted = Integer.bitCount(openWith(house, house.there));
             int best = house.there;
             for (int set = house.there; set >= 0; set--) {
                 boolean smaller = Integer.bitCount(set) <= Integer.bitCount(best);
-                if ((set & ~house.there) == 0 && smaller && Integer.bitCount(openWith(set)) == wanted) {
+                if ((set & ~house.there) == 0 && smaller && Integer.bitCount(openWith(house, set)) == wanted) {
                     best = set;
                 }
             }
