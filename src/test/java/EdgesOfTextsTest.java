@@ -281,6 +281,10 @@ public final class EdgesOfTextsTest {
         fault(0, "(((((!v)))))", 5);
         fault(0, "(((((v+(1", 7);
         fault(0, "v*(((((v+!1", 9);
+        fault(0, "!!!!!+1", 5);
+        fault(0, "((((()))))", 5);
+        fault(0, "(((((-1)))))", 5);
+        fault(0, "!!!!!", 5);
         fault(1, "!!!!!d", -1);
         fault(1, "!!!!!!d", 5);
     }
