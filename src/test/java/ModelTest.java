@@ -1,7 +1,10 @@
 /** Runs of mixed calls, drawn the same each time, whose answers must be the model's. */
 public final class ModelTest {
-    private static final int RUNS = 600;
-    private static final int CALLS = 360;
+    private static final int RUNS = 500;
+    /** What it is: "An object is used for at most 512 calls after it has been made". */
+    private static final int CALLS = 512;
+    /** The most calls that one new law takes, with the call behind it: 7 words, 2 texts. */
+    private static final int CALLS_OF_A_LAW = 10;
     private static final String[] SHORT_LAWS = {"v+1", "v+k", "v-1", "v+2-k", "(v+y)%100", "v", "v*3%97", "99-v",
         "v+(y=3)*20", "v-(y>7)*40+k", "(v+37*k+y*y)%100"};
     private static final String[] STAND_INS = {"1", "d<3", "m>4", "l=0", "d=0|m=l", "!(d>4)&m<9", "d%2=0", "0"};
@@ -12,6 +15,7 @@ public final class ModelTest {
     private final Model y = new Model();
     private final StringBuilder told = new StringBuilder();
     private boolean lastWasError;
+    private int made = 0;
 
     private ModelTest(int run) {
         state = 0x9E3779B97F4A7C15L * (run + 1);
@@ -22,8 +26,8 @@ public final class ModelTest {
         int usual = 0;
         for (int run = 0; run < RUNS; run++) {
             ModelTest test = new ModelTest(run);
-            for (int call = 0; call < CALLS; call++) {
-                if (!test.step(run, call)) {
+            while (test.made < CALLS) {
+                if (!test.step(run)) {
                     System.exit(1);
                 }
                 answered++;
@@ -38,16 +42,17 @@ public final class ModelTest {
         randomTexts();
     }
 
-    private boolean step(int run, int call) {
+    private boolean step(int run) {
         String name = drawName();
         long[] a = arguments(name);
+        made++;
         int got = CallTable.onProgram(x, name, a);
         int want = CallTable.onModel(y, name, a);
         lastWasError = want < Model.LOW && !name.equals("seed") && !name.equals("voice");
         told.append(CallTable.told(name, a)).append(" -> ").append(want).append('\n');
         if (got != want) {
             System.out.print(told);
-            System.out.println("run " + run + ", call " + call + ": " + CallTable.told(name, a) + " answered " + got
+            System.out.println("run " + run + ", call " + made + ": " + CallTable.told(name, a) + " answered " + got
                 + ", due is " + want);
             return false;
         }
@@ -166,7 +171,7 @@ public final class ModelTest {
         if (y.count(1) < 3 + below(6) && below(4) == 0) {
             return "bind";
         }
-        if (below(12) == 0) {
+        if (below(12) == 0 && made + CALLS_OF_A_LAW <= CALLS) {
             feedLaw();
         }
         String name = CallTable.NAMES[below(CallTable.NAMES.length)];
@@ -182,8 +187,10 @@ public final class ModelTest {
         }
         if (y.tape.length() + s.length() > 50 || !y.tape.isEmpty()) {
             Due.due("text", x.text(use), y.text(use));
+            made++;
         }
         Due.feed(x, s);
+        made += (s.length() + 7) / 8 + 1;
         for (int i = 0; i < s.length(); i++) {
             y.feed(s.charAt(i), 1);
         }
